@@ -901,7 +901,6 @@ public final class ChipNetwork {
             target = newTarget;
             limit = newLimit;
             state = GOING;
-            at = newSource;
             hops = 0;
             sentTime = time;
             endTime = NONE;

@@ -9,6 +9,7 @@ public final class BackTest {
         notUndone();
         digest();
         snapshots();
+        anotherPacketOfTheSameNumber();
         snapshotsAndUndo();
         CHECK.end();
     }
@@ -160,6 +161,23 @@ public final class BackTest {
         net.tick(9);
         net.restoreSnapshot(1);
         CHECK.is("replaced", net.digest(), second);
+    }
+
+    private static void anotherPacketOfTheSameNumber() {
+        ChipNetwork net = Check.loaded("grid 3 1;");
+        net.tick(1);
+        net.send(0, 1, 3);
+        net.tick(9);
+        net.saveSnapshot(0);
+        net.undo();
+        net.undo();
+        net.undo();
+        net.send(2, 0, 200);
+        net.restoreSnapshot(0);
+        int[] due = {0, 1, 3, 3, 0, 1, 1, 2, 0, 1, 3};
+        for (int what = 0; what < due.length; what++) {
+            CHECK.is("packet 0 " + what + " restored", net.packet(0, what), due[what]);
+        }
     }
 
     private static void snapshotsAndUndo() {

@@ -168,5 +168,9 @@ public final class ForecastTest {
         CHECK.is("the most", net.mostFound(), 6);
         net.mend(3, 0);
         CHECK.is("also if it is alive", net.mostFound(), 6);
+        ChipNetwork first = Check.loaded("grid 2 1;dead 0 east;");
+        first.send(1, 0, 9);
+        first.tick(1);
+        CHECK.is("link 0", first.mostFound(), 0);
     }
 }

@@ -82,6 +82,7 @@ public final class InputTest {
         net.write(0);
         net.saveSnapshot(0);
         net.saveSnapshot(1);
+        net.stateIn(0, 40);
         Check.put(net, "grid 3 2;");
         CHECK.is("second load", net.load(), 6);
         int[] due = {3, 2, 50, 0, 7, 0, 0, 0, 0, 0, 0, 0};

@@ -57,6 +57,7 @@ public final class LessonTest {
         CHECK.is("of link 3", net.knowers(3), 0);
         net.tick(5);
         CHECK.is("of link 0 at 5", net.knowers(0), 0);
+        CHECK.is("node 0 counts", Check.loaded("grid 2 1;lesson 0 0 east;").knowers(0), 1);
         CHECK.fails("no link", Check.NO_INDEX, () -> net.knowers(2));
         CHECK.fails("link -1", Check.NO_INDEX, () -> net.knowers(-1));
     }
@@ -86,6 +87,7 @@ public final class LessonTest {
         CHECK.is("none hold", net.wisest(), ChipNetwork.NONE);
         ChipNetwork two = Check.loaded("grid 3 1;lesson 2 0 east;lesson 1 0 east;");
         CHECK.is("the lowest of several", two.wisest(), 1);
+        CHECK.is("node 0", Check.loaded("grid 2 1;lesson 0 0 east;lesson 1 0 east;").wisest(), 0);
     }
 
     // Promise 16

@@ -36,9 +36,11 @@ public final class OutputTest {
         CHECK.is("byte -1", net.outputByte(-1), ChipNetwork.NONE);
         CHECK.is("least byte", net.outputByte(Integer.MIN_VALUE), ChipNetwork.NONE);
         CHECK.is("greatest byte", net.outputByte(Integer.MAX_VALUE), ChipNetwork.NONE);
+        net.send(10, 9, 9);
+        written(net, 3, "10");
         net.tick(1);
         written(net, 2, "0een");
-        CHECK.fails("no packet", Check.NO_INDEX, () -> net.write(3));
+        CHECK.fails("no packet", Check.NO_INDEX, () -> net.write(4));
         CHECK.fails("packet -1", Check.NO_INDEX, () -> net.write(-1));
         CHECK.is("the output stays then", output(net).equals("0een"), true);
         ChipNetwork tower = Check.loaded("grid 1 4;");

@@ -152,6 +152,10 @@ public final class PacketTest {
         CHECK.is("now it does", net.choice(0), 0);
         net.tick(20);
         CHECK.is("not going", net.choice(0), ChipNetwork.NONE);
+        ChipNetwork early = Check.loaded("grid 4 1;");
+        early.send(1, 2, 9);
+        early.tick(1);
+        CHECK.is("telling, though there is a node ahead", early.choice(0), ChipNetwork.NONE);
         ChipNetwork none = Check.loaded("grid 2 1;lesson 0 0 east;");
         none.send(0, 1, 5);
         CHECK.is("none", none.choice(0), ChipNetwork.NONE);
@@ -264,6 +268,7 @@ public final class PacketTest {
     private static void packetsTo() {
         ChipNetwork net = allStates();
         CHECK.is("to 0", net.packetsTo(0), 0b010100);
+        CHECK.is("to 5, packet 0", net.packetsTo(5), 0b000001);
         CHECK.is("to 3, told", net.packetsTo(3), 0b001000);
         CHECK.is("to 8, lost", net.packetsTo(8), 0b100000);
         CHECK.is("to 2", net.packetsTo(2), 0);
@@ -282,6 +287,9 @@ public final class PacketTest {
         CHECK.is("the lowest of several", net.busiest(), 7);
         net.send(9, 0, 5);
         CHECK.is("the most", net.busiest(), 9);
+        net.send(0, 5, 5);
+        net.send(0, 5, 5);
+        CHECK.is("node 0", net.busiest(), 0);
     }
 
     // Promise 43

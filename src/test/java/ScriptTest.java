@@ -30,6 +30,8 @@ public final class ScriptTest {
         CHECK.is("play again", net.play(), 3);
         CHECK.is("dead links", net.count(5), 3);
         CHECK.is("ways", net.isDead(1) && net.isDead(2), true);
+        CHECK.is("of a longer script ahead of it nothing is left", Check.played(net, "tick 1;"), 1);
+        CHECK.is("TIME", net.count(3), 2);
         CHECK.is("south and west", Check.played(net, "mend 3 south;mend 1 west;mend 1 east;tick 500;"), 4);
         CHECK.is("none dead", net.count(5), 0);
     }
@@ -38,6 +40,8 @@ public final class ScriptTest {
         ChipNetwork net = Check.loaded("grid 2 2;");
         CHECK.is("same nodes", Check.played(net, "tick 1;send 1 1 5;tick 1;"), 1);
         CHECK.is("what was done stays done", net.count(3), 1);
+        CHECK.is("no command of the script ahead of it", Check.played(net, "send 0 0 5;"), 0);
+        CHECK.is("nor behind its end", Check.played(net, "mend 0 north;tick 1;"), 0);
         CHECK.is("no error of the text", net.errorCode(), 0);
         CHECK.is("no source", Check.played(net, "send 4 0 5;"), 0);
         CHECK.is("no target", Check.played(net, "tick 2;tick 2;send 0 35 5;"), 2);

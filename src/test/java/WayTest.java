@@ -119,6 +119,7 @@ public final class WayTest {
         CHECK.is("asking leaves all as it was", net.bridge(0), 1);
         net.mend(0, 0);
         CHECK.is("in a ring there is none", net.bridge(0), 5);
+        CHECK.is("link 0", Check.loaded("grid 2 1;").bridge(0), 0);
         CHECK.is("far index", net.bridge(Integer.MAX_VALUE), ChipNetwork.NONE);
         CHECK.fails("index -1", Check.NO_INDEX, () -> net.bridge(-1));
         CHECK.is("whole grid", Check.loaded("grid 6 6;").bridge(0), ChipNetwork.NONE);
