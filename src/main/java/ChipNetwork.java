@@ -108,7 +108,9 @@ public final class ChipNetwork {
         }
         world.copyFrom(forecast);
         history.clear();
-        Arrays.fill(isSaved, false);
+        for (int place = 0; place < isSaved.length; place++) {
+            isSaved[place] = false;
+        }
         return world.grid.nodes;
     }
 
@@ -1006,7 +1008,9 @@ public final class ChipNetwork {
 
         void clear() {
             grid.shape(1, 1);
-            Arrays.fill(dead, false);
+            for (int link = 0; link < dead.length; link++) {
+                dead[link] = false;
+            }
             Arrays.fill(lessonTimes, NONE);
             stale = FIRST_STALE;
             time = 0;

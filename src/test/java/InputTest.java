@@ -96,6 +96,11 @@ public final class InputTest {
         CHECK.is("the output is not of the text", net.outputByte(0), '0');
         Check.put(net, "");
         CHECK.is("an empty text replaces too", net.load(), 1);
+        for (int stale = 7; stale < 9; stale++) {
+            Check.put(net, "stale " + stale + ";");
+            CHECK.is("each text has a stale of its own", net.load(), 1);
+            CHECK.is("STALE", net.count(2), stale);
+        }
     }
 
     private static void failedLoadKeeps() {
@@ -142,6 +147,9 @@ public final class InputTest {
         error("Grid 2 2;", 1, 0);
         error("stale -5;", 1, 6);
         error("stales 5;", 1, 0);
+        error("stalez 5;", 1, 0);
+        error("astale 5;", 1, 0);
+        error("stale{5;", 1, 5);
         error("dead 0 up;", 1, 7);
         error("dead 0 0;", 1, 7);
         error("dead east;", 1, 5);

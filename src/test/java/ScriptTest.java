@@ -30,6 +30,9 @@ public final class ScriptTest {
         CHECK.is("play again", net.play(), 3);
         CHECK.is("dead links", net.count(5), 3);
         CHECK.is("ways", net.isDead(1) && net.isDead(2), true);
+        CHECK.is("two sent", Check.played(net, "send 0 1 7;send 3 4 200;"), 2);
+        CHECK.is("first LIMIT", net.packet(1, 2), 7);
+        CHECK.is("second LIMIT", net.packet(2, 2), 200);
         CHECK.is("of a longer script ahead of it nothing is left", Check.played(net, "tick 1;"), 1);
         CHECK.is("TIME", net.count(3), 2);
         CHECK.is("south and west", Check.played(net, "mend 3 south;mend 1 west;mend 1 east;tick 500;"), 4);

@@ -67,6 +67,9 @@ public final class WayTest {
         net.tick(5);
         CHECK.is("lessons that do not hold", net.believed(0, 3), 1);
         CHECK.is("no way", Check.loaded("grid 2 1;lesson 0 0 east;").believed(0, 1), ChipNetwork.NONE);
+        ChipNetwork ring = Check.loaded("grid 2 2;");
+        CHECK.is("a cut ahead of it", ring.cut(0, 3), 2);
+        CHECK.is("does not matter", ring.believed(0, 3), 2);
         needsNodes("believed", 9, net::believed);
     }
 
