@@ -760,7 +760,7 @@ public final class ChipNetwork {
     }
 
     private void putOutput(int value) {
-        if (outputLength < output.length) {
+        if (outputLength >= 0 && outputLength < output.length) {
             output[outputLength] = value;
             outputLength++;
         }
@@ -938,7 +938,7 @@ public final class ChipNetwork {
         void enter(int node) {
             at = node;
             visited |= 1L << node;
-            if (trailLength < trail.length) {
+            if (trailLength >= 0 && trailLength < trail.length) {
                 trail[trailLength] = node;
                 trailLength++;
             }
@@ -1021,7 +1021,9 @@ public final class ChipNetwork {
             if (grid.width != other.grid.width || grid.height != other.grid.height) {
                 grid.shape(other.grid.width, other.grid.height);
             }
-            System.arraycopy(other.dead, 0, dead, 0, MAX_LINKS);
+            for (int link = 0; link < dead.length && link < other.dead.length; link++) {
+                dead[link] = other.dead[link];
+            }
             System.arraycopy(other.lessonTimes, 0, lessonTimes, 0, MAX_NODES * MAX_LINKS);
             stale = other.stale;
             time = other.time;
@@ -1453,7 +1455,7 @@ public final class ChipNetwork {
 
         void appendWord(int word) {
             for (int shift = 24; shift >= 0; shift -= 8) {
-                if (length < bytes.length) {
+                if (length >= 0 && length < bytes.length) {
                     bytes[length] = word >> shift & 255;
                     length++;
                 }
