@@ -8,8 +8,8 @@ import java.util.Map;
 import java.util.TreeMap;
 
 /**
- * The document as the tests of its boundary cases need it: each test names its promise and quotes the sentence that
- * it holds the class to. A quote that the document does not have, or a boundary case that no test quotes, is a fault.
+ * The document as the tests of its sentences need it: each test names its promise and quotes the sentence that it
+ * holds the class to. A quote that the document does not have, or a sentence that no test quotes, is a fault.
  */
 final class Book {
     private static final String DESCRIPTION = "## Description";
@@ -129,6 +129,44 @@ final class Book {
         }
     }
 
+    /** Each sentence of the description, and each that tells what a promise does, must be touched by a quote. */
+    private void needSentences() {
+        List<String> all = new ArrayList<>();
+        quotes.values().forEach(all::addAll);
+        test = "Description";
+        needTouched(common.substring(0, common.indexOf("The constants:")), all);
+        for (Map.Entry<Integer, List<String>> promise : promises.entrySet()) {
+            test = "Promise " + promise.getKey();
+            List<String> lines = promise.getValue();
+            for (String line : lines.subList(1, lines.size())) {
+                if (!line.startsWith("- ")) {
+                    needTouched(line, quotes.get(promise.getKey()));
+                }
+            }
+        }
+    }
+
+    private void needTouched(String text, List<String> touching) {
+        boolean[] isTouched = new boolean[text.length()];
+        for (String quote : touching) {
+            for (int at = text.indexOf(quote); at >= 0; at = text.indexOf(quote, at + 1)) {
+                Arrays.fill(isTouched, at, at + quote.length(), true);
+            }
+        }
+        int start = 0;
+        for (String sentence : text.split("(?<=[.;:|]) ")) {
+            boolean isHeading = sentence.endsWith(":") || sentence.equals(sentence.toUpperCase());
+            boolean isHeld = isHeading;
+            for (int at = start; at < start + sentence.length(); at++) {
+                isHeld |= isTouched[at];
+            }
+            if (!isHeld) {
+                fault("no test of \"" + sentence + "\"");
+            }
+            start += sentence.length() + 1;
+        }
+    }
+
     /** The first sentence of a promise may begin with Returns as well: the last one that does tells the answers. */
     private static List<String> clauses(List<String> lines) {
         List<String> all = new ArrayList<>();
@@ -147,6 +185,7 @@ final class Book {
 
     void end() {
         needQuotes();
+        needSentences();
         System.out.println("BoundaryTest: " + tests + " tests of " + promises.size() + " promises, " + asked
                 + " answers, " + wrong + " not as due");
         if (wrong != 0) {

@@ -1,6 +1,6 @@
 import java.nio.file.Path;
 
-/** Promises 1 to 56: each sentence of the document that names a boundary case has a test of its own. */
+/** Promises 1 to 56: each sentence of the document has a test, one that names a boundary case a test of its own. */
 public final class BoundaryTest {
     public static void main(String[] args) throws Exception {
         Book book = new Book(Path.of("../shared/DOC.md"));
@@ -17,6 +17,8 @@ public final class BoundaryTest {
         new ScriptBounds(book).run();
         new BackBounds(book).run();
         new RefusedBounds(book).run();
+        new PlainNetwork(book).run();
+        new PlainPackets(book).run();
         book.end();
     }
 }
